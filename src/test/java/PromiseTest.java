@@ -46,11 +46,13 @@ public final class PromiseTest {
         row();
         feed();
         evening();
+        behindAFault();
         faults();
         nesting();
         told();
         doubt();
         doubtOfTexts();
+        likelyByTen();
         round();
         guess();
         kindsGuess();
@@ -60,6 +62,7 @@ public final class PromiseTest {
         best();
         first();
         line();
+        lines();
         worth();
         see();
         lies();
@@ -303,6 +306,17 @@ public final class PromiseTest {
         due("hands", x.told(1), 10);
     }
 
+    private static void behindAFault() {
+        Check.group("promise 9, behind a fault");
+        TwoTrue x = with(GUEST, GUEST);
+        due("a fault behind clauses", read(x, "hands 5;odd 9 p=0;"), -28);
+        due("nothing of it holds", x.told(1), 10);
+        due("nothing of it holds", x.doubt(0, 1, 0), 49);
+        due("the next text", read(x, "odd 3 p=0"), 0);
+        due("has nothing of it", x.told(1), 10);
+        due("has nothing of it", x.doubt(0, 1, 0), 52);
+    }
+
     private static void faults() {
         Check.group("promise 9, faults");
         Object[][] texts = {
@@ -387,6 +401,17 @@ public final class PromiseTest {
         due("far above", x.doubt(0, 1, 1), 693);
     }
 
+    private static void likelyByTen() {
+        Check.group("promise 11, likely by 10");
+        TwoTrue x = with(GUEST, GUEST);
+        for (int likely = 0; likely < 100; likely++) {
+            x.thing(0, 1, 0, likely);
+            read(x, "odd 1 l=" + likely / 10);
+            due("likely " + likely, x.doubt(1, 0, 1), 100 - likely);
+            x = with(GUEST, GUEST);
+        }
+    }
+
     /** Person 1 (reader) doubts of 2, whose thing 0 (likely 34, long 6) is told third, at place 2. */
     private static void doubtOfTexts() {
         Check.group("promise 11, tests");
@@ -398,7 +423,8 @@ public final class PromiseTest {
             {"g=1|g=2&g=2", 1}, {"g=2&g=2|g=1", 1}, {"(g=1|g=2)&g=2", 0}, {"g=2&(g=2|g=1)", 0},
             {"!g=1|g=1", 1}, {"!(g=1|g=1)", 0}, {"!g=2&g=2", 0}, {"!(g=2&g=2)", 1}, {"g=1&g=1&g=2", 0},
             {"g=1&g=2&g=1", 0}, {"g=2&g=1&g=1", 0}, {"g=2|g=2|g=1", 1}, {"g=2|g=1|g=2", 1},
-            {"!((g=2|g=1)&!g=2)", 0}, {"g=2|!(g=2|!(g=1))", 1}};
+            {"!((g=2|g=1)&!g=2)", 0}, {"g=2|!(g=2|!(g=1))", 1},
+            {"g=1&(g=1)", 1}, {"g=2|(g=2)", 0}, {"g=2|(g=1&(g=2|(g=1&g=1)))", 1}, {"g=1&(g=1|(g=2))", 1}};
         for (Object[] row : texts) {
             int is = (Integer) row[1];
             String e = (String) row[0];
@@ -475,6 +501,12 @@ public final class PromiseTest {
         due("a guest", x.guess(2, 0), 0);
         lengths(x, 0, 1, 5, 5);
         due("a reader", x.guess(1, 0), 1);
+        // 49 to 0 + 2 * 9 + ..: 49 + 10 to 41 + 18, a point less or more.
+        lengths(x, 0, 5, 9, 0);
+        likely(x, 0, 50, 58, 99);
+        due("a reader", x.guess(1, 0), 0);
+        likely(x, 0, 50, 57, 99);
+        due("a reader", x.guess(1, 0), 1);
         // SHARP: as READER, and 30 for place 2: 79, 59, 49 + 30 = 79: the first; one more: place 2.
         x = with(GUEST, SHARP);
         likely(x, 0, 30, 50, 60);
@@ -505,6 +537,23 @@ public final class PromiseTest {
         due("the next sheep", x.guess(3, 0), 2);
         read(x, "hands 0");
         due("a sheep, hands 0", x.guess(2, 0), 0);
+        for (int place = 0; place < 3; place++) {
+            x = with(GUEST, GUEST, SHEEP);
+            x.tells(0, (3 - place) % 3, (4 - place) % 3);
+            likely(x, 0, 40, 50, 50);
+            due("one hand is up at " + place, x.guess(2, 0), place);
+            x = with(GUEST, SHARP, GUEST, SHEEP);
+            x.tells(0, (3 - place) % 3, (4 - place) % 3);
+            likely(x, 0, 60, 70, 70);
+            // Hands: one at 2 of the sharp one, one at the place: of several the first.
+            due("hands at 2 and " + place, x.guess(3, 0), place);
+        }
+        for (int place = 0; place < 3; place++) {
+            // The sheep doubts all but that place by 90 more, but sees a hand there.
+            x = with(GUEST, GUEST, SHEEP);
+            read(x, "odd 90 g=2&!p=" + place + ";odd 9 g=1&p=" + place);
+            due("hands alone, at " + place, x.guess(2, 0), place);
+        }
         // FRIEND: 5 times v for the place of the lie, if who tells is v modulo how many there are.
         x = new TwoTrue();
         x.person(GUEST, 0);
@@ -597,6 +646,19 @@ public final class PromiseTest {
         for (int what = 0; what < 4; what++) {
             due("order(0, " + what + ")", x.order(0, what), text[what]);
         }
+        int[][] rows = {{0, 1, 2}, {0, 2, 1}, {1, 0, 2}, {1, 2, 0}, {2, 0, 1}, {2, 1, 0}};
+        for (int[] r : rows) {
+            // Long of things 0, 1, 2 is 0, 1, 2: the lie is odd, unless they are told by this row.
+            x = with(GUEST, GUEST);
+            lengths(x, 0, 0, 1, 2);
+            likely(x, 0, 99, 99, 99);
+            x.lie(0, r[0]);
+            read(x, "odd 50 n=" + r[0] + ";sure 30 n=" + r[0] + "&p=0;odd 25 n=" + r[1] + "&p=1");
+            due("order by " + r[0] + r[1], x.order(0, 0), 1);
+            for (int p = 0; p < 3; p++) {
+                due("its thing at " + p, x.order(0, 1 + p), r[p]);
+            }
+        }
         due("alone", with(GUEST).order(0, 0), 0);
         due("alone", with(GUEST).order(0, 3), 2);
     }
@@ -678,6 +740,10 @@ public final class PromiseTest {
         likely(x, 0, 45, 50, 50);
         // 54 to 49 + 10: follower 1 goes to place 2, 2 with it; the guest does not.
         due("3 first at 2", x.first(3, 0, 2), 2);
+        x = with(FOLLOWER, GUEST, GUEST);
+        likely(x, 2, 45, 50, 50);
+        due("0 follows 1", x.first(1, 2, 1), 1);
+        x = with(GUEST, FOLLOWER, FOLLOWER, GUEST);
         due("round stays", x.told(0), 0);
         due("no such one", x.first(4, 0, 0), -1);
         due("person -1", x.first(-1, 0, 0), -1);
@@ -733,6 +799,33 @@ public final class PromiseTest {
         due("alone", x.line(0, 3), -5);
     }
 
+    /** Each row of four in turn is the one by which the fewest are taken in. */
+    private static void lines() {
+        Check.group("promise 19, rows");
+        for (int n = 0; n < 256; n++) {
+            int[] row = {n / 64, n / 16 % 4, n / 4 % 4, n % 4};
+            boolean once = true;
+            for (int a = 0; a < 4; a++) {
+                for (int b = 0; b < a; b++) {
+                    once &= row[a] != row[b];
+                }
+            }
+            if (!once) {
+                continue;
+            }
+            // Followers all; the first in the row guesses place 1 by itself, each next one by one hand more.
+            TwoTrue x = with(FOLLOWER, FOLLOWER, FOLLOWER, FOLLOWER, GUEST);
+            likely(x, 4, 50, 50, 50);
+            x.lie(4, 1);
+            read(x, "odd 5 p=1&g=" + row[0] + ";odd 15 p=0&g=" + row[2] + ";odd 25 p=0&g=" + row[3]
+                    + ";odd 5 p=0&g=" + row[1]);
+            due("fewest, row " + n, x.line(4, -1), 0);
+            for (int k = 0; k < 4; k++) {
+                due("row " + n + ", k " + k, x.line(4, k), row[k]);
+            }
+        }
+    }
+
     private static void worth() {
         Check.group("promise 20");
         // v 5 modulo 3 is 2: of 2 alone it is a friend, by 25.
@@ -765,6 +858,21 @@ public final class PromiseTest {
         x.row(0, 0, 0);
         x.thing(1, 0, 0, 20);
         due("79 + 40 to 109, 79 to 109", x.worth(0), -1);
+        // As a guest the friend would guess place 1: 49, 52, 50.
+        x = new TwoTrue();
+        x.person(GUEST, 0);
+        x.person(FRIEND, 0);
+        likely(x, 0, 50, 47, 49);
+        x.lie(0, 1);
+        due("right as a guest", x.worth(1), 0);
+        x.lie(0, 2);
+        due("wrong as a guest, and as a friend by 0", x.worth(1), 0);
+        x = new TwoTrue();
+        x.person(GUEST, 0);
+        x.person(FRIEND, 2);
+        likely(x, 0, 50, 47, 49);
+        x.lie(0, 2);
+        due("of 0, too", x.worth(1), 1);
         due("alone", with(FRIEND).worth(0), 0);
         x = with(GUEST, READER, FOLLOWER, SHARP, SHEEP);
         for (int p = 0; p < 5; p++) {
@@ -951,6 +1059,22 @@ public final class PromiseTest {
         x.thing(0, 1, 0, 0);
         due("as all is now", x.looked(), 0);
         x.book(-1, 0, 0);
+        // Of 0 all guess place 1; of 1, place 0, but for the sharp one; of 2, place 0.
+        x.book(1, 2, 2);
+        x.book(0, 2, 1);
+        x.book(2, 1, 0);
+        x.book(0, 1, 1);
+        x.book(1, 0, 0);
+        x.book(2, 0, 0);
+        due("all is so", x.looked(), -5);
+        x.book(2, 1, 1);
+        due("the seventh is not", x.looked(), 6);
+        x.book(-1, 0, 0);
+        for (int r = 0; r < 12; r++) {
+            x.book(0, 1, 1);
+        }
+        due("all twelve are so", x.looked(), -5);
+        x.book(-1, 0, 0);
         due("an empty book", x.looked(), -5);
         x.book(0, 1, 0);
         due("row 0", x.looked(), 0);
@@ -1064,7 +1188,27 @@ public final class PromiseTest {
             due("seen", x.see(1, 4), 4);
             x.evening();
         }
-        due("who comes anew", x.person(GUEST, 2), 2);
+        x.person(TOLD, 1);
+        for (int part = 0; part < 4; part++) {
+            x.row(2, part, 2);
+        }
+        x.lie(2, 1);
+        likely(x, 2, 1, 2, 3);
+        lengths(x, 2, 1, 2, 3);
+        x.tells(2, 1, 2);
+        x.round(2);
+        x.round(0);
+        x.undo();
+        due("who comes anew", x.person(TOLD, 2), 2);
+        for (int part = 0; part < 4; part++) {
+            due("has a row of 0", x.row(2, part, 0), 0);
+        }
+        for (int t = 0; t < 3; t++) {
+            due("has long 5", x.of(2, 30 + t), 5);
+            due("has likely 50", x.of(2, 20 + t), 50);
+            due("tells by numbers", x.of(2, 10 + t), t);
+        }
+        due("has no points", x.of(2, 2), 0);
         due("has 50", x.of(2, 20), 50);
         due("lies of 0", x.of(2, 3), 0);
         due("tells 0 first", x.of(2, 10), 0);
@@ -1074,6 +1218,18 @@ public final class PromiseTest {
         read(x, "hands 1");
         x.undo();
         due("none holds", x.told(1), 10);
+        x = with(GUEST, GUEST);
+        for (int r = 0; r < 12; r++) {
+            x.book(r % 2, 1 - r % 2, r == 11 ? 1 : 0);
+        }
+        x.image();
+        x.book(-1, 0, 0);
+        for (int r = 0; r < 12; r++) {
+            x.book(0, 1, 2);
+        }
+        due("another book", x.looked(), 0);
+        x.undo();
+        due("the book again, all twelve rows", x.looked(), 11);
     }
 
     private static void act() {
