@@ -1,40 +1,6 @@
 /** For each promise of the document: ordinary calls, the edges it names, wrong numbers. Reckoned by hand. */
-public final class PromiseTest {
-    private static final int GUEST = 0, READER = 1, FOLLOWER = 2, FRIEND = 3, SHARP = 4, SHEEP = 5, TOLD = 6;
-    private static final int MIN = Integer.MIN_VALUE, MAX = Integer.MAX_VALUE;
-
+public final class PromiseTest extends Asking {
     private PromiseTest() { }
-
-    private static void due(String call, long got, long want) {
-        Check.due(call, got, want);
-    }
-
-    private static TwoTrue with(int... kinds) {
-        TwoTrue x = new TwoTrue();
-        for (int kind : kinds) {
-            x.person(kind, 0);
-        }
-        return x;
-    }
-
-    private static void likely(TwoTrue x, int person, int a, int b, int c) {
-        x.thing(person, 0, 0, a);
-        x.thing(person, 1, 0, b);
-        x.thing(person, 2, 0, c);
-    }
-
-    private static void lengths(TwoTrue x, int person, int a, int b, int c) {
-        x.thing(person, 0, 1, a);
-        x.thing(person, 1, 1, b);
-        x.thing(person, 2, 1, c);
-    }
-
-    private static int read(TwoTrue x, String text) {
-        for (int i = 0; i < text.length(); i++) {
-            x.feed(text.charAt(i));
-        }
-        return x.evening();
-    }
 
     public static void main(String[] args) {
         newObject();
