@@ -1211,6 +1211,11 @@ public final class TermsEdgeTest extends Asking {
         due("none to look at", x.judge(1, 0), -5);
         due("none to look at, at its end", x.judge(1, 3), -5);
         due("none to look at, no items", x.judge(2, 0), -5);
+        // Both might be due: -5 is named ahead of 100.
+        for (int i : new int[] {-1, 0, 3, 4, 60, MIN, MAX}) {
+            due("none to look at, from " + i + " on", x.judge(1, i), -5);
+            due("none to look at, of nothing, from " + i + " on", x.judge(3, i), -5);
+        }
     }
 
     private static void refusals() {
