@@ -18,7 +18,7 @@ public final class TermsEdgeTest extends Asking {
     }
 
     private static void calls() {
-        says("What it is", "An object is used for at most 512 calls after it has been made");
+        says("What it is, promises 1 to 38", "An object is used for at most 512 calls after it has been made");
         TwoTrue x = with(GUEST, GUEST);
         for (int call = 3; call <= 511; call++) {
             x.round(0);
@@ -41,7 +41,7 @@ public final class TermsEdgeTest extends Asking {
     }
 
     private static void numbers() {
-        says("Terms 1", "PEOPLE 0 .. 5, as they come");
+        says("Terms 1, promise 2", "PEOPLE 0 .. 5, as they come");
         int[] kinds = {TOLD, GUEST, SHEEP, READER, SHARP, FOLLOWER};
         TwoTrue x = new TwoTrue();
         due("nobody yet", x.of(0, 0), -1);
@@ -58,7 +58,7 @@ public final class TermsEdgeTest extends Asking {
     }
 
     private static void kinds() {
-        says("Terms 1", "0 GUEST; 1 READER, 2 FOLLOWER, 3 FRIEND under GUEST; 4 SHARP under READER; "
+        says("Terms 1, promises 2, 33", "0 GUEST; 1 READER, 2 FOLLOWER, 3 FRIEND under GUEST; 4 SHARP under READER; "
                 + "5 SHEEP under FOLLOWER; 6 TOLD under FRIEND");
         String[] above = {"0", "10", "20", "30", "410", "520", "630"};
         for (int kind = 0; kind < 7; kind++) {
@@ -70,7 +70,7 @@ public final class TermsEdgeTest extends Asking {
     }
 
     private static void numbersV() {
-        says("Terms 1", "with a number v (0 .. 9)");
+        says("Terms 1, promise 2", "with a number v (0 .. 9)");
         for (int v = 0; v <= 9; v++) {
             TwoTrue x = new TwoTrue();
             due("v " + v, x.person(READER, v), 0);
@@ -81,7 +81,7 @@ public final class TermsEdgeTest extends Asking {
     }
 
     private static void pointsAtFirst() {
-        says("Terms 1", "POINTS (0 at first)");
+        says("Terms 1, promises 2, 6", "POINTS (0 at first)");
         TwoTrue x = with(GUEST, GUEST);
         x.round(0);
         due("who comes later", x.person(GUEST, 9), 2);
@@ -90,7 +90,7 @@ public final class TermsEdgeTest extends Asking {
     }
 
     private static void things() {
-        says("Terms 1", "each has three THINGS 0 .. 2 to tell, each LIKELY (0 .. 99) and LONG (0 .. 9) "
+        says("Terms 1, promises 3, 6", "each has three THINGS 0 .. 2 to tell, each LIKELY (0 .. 99) and LONG (0 .. 9) "
                 + "(50 and 5 at first)");
         for (int thing = 0; thing < 3; thing++) {
             TwoTrue x = with(GUEST, GUEST);
@@ -118,7 +118,7 @@ public final class TermsEdgeTest extends Asking {
     }
 
     private static void lieAtFirst() {
-        says("Terms 1", "one of these is the LIE (0 at first)");
+        says("Terms 1, promises 4, 6", "one of these is the LIE (0 at first)");
         TwoTrue x = with(GUEST, GUEST);
         due("at first", x.of(1, 3), 0);
         due("what it was", x.lie(1, 2), 0);
@@ -127,7 +127,7 @@ public final class TermsEdgeTest extends Asking {
     }
 
     private static void orderAtFirst() {
-        says("Terms 1", "and an ORDER in which it tells them (0, 1, 2 at first)");
+        says("Terms 1, promises 5, 6", "and an ORDER in which it tells them (0, 1, 2 at first)");
         TwoTrue x = with(GUEST, GUEST);
         for (int place = 0; place < 3; place++) {
             due("at first, " + place, x.of(1, 10 + place), place);
@@ -139,7 +139,7 @@ public final class TermsEdgeTest extends Asking {
     }
 
     private static void places() {
-        says("Terms 1", "PLACES 0 .. 2 are first, second, third told.");
+        says("Terms 1, promises 11, 13", "PLACES 0 .. 2 are first, second, third told.");
         TwoTrue x = with(GUEST, GUEST);
         likely(x, 0, 11, 22, 33);
         x.tells(0, 1, 2);
@@ -151,7 +151,7 @@ public final class TermsEdgeTest extends Asking {
     }
 
     private static void roundAtFirst() {
-        says("Terms 1", "ROUND: 0 at first.");
+        says("Terms 1, promise 10", "ROUND: 0 at first.");
         due("at first", new TwoTrue().told(0), 0);
         TwoTrue x = with(GUEST);
         due("as one came", x.told(0), 0);
@@ -175,7 +175,7 @@ public final class TermsEdgeTest extends Asking {
     }
 
     private static void byNumbers() {
-        says("Terms 1", "A ROUND: one tells; all others guess, by numbers, each seeing the HANDS "
+        says("Terms 1, promises 12 to 14", "A ROUND: one tells; all others guess, by numbers, each seeing the HANDS "
                 + "(for each PLACE how many have guessed it already).");
         // 1 to 4 guess place 2; of 5 (FOLLOWER, 10 a hand) place 0 weighs 88 + odd, place 2 weighs 59 + 40.
         TwoTrue x = with(GUEST, SHARP, SHARP, SHARP, SHARP, FOLLOWER);
@@ -206,7 +206,7 @@ public final class TermsEdgeTest extends Asking {
     }
 
     private static void guest() {
-        says("Terms 1", "GUEST: DOUBT about the THING there.");
+        says("Terms 1, promise 13", "GUEST: DOUBT about the THING there.");
         TwoTrue x = with(GUEST, GUEST);
         likely(x, 0, 50, 49, 50);
         due("more by one", x.guess(1, 0), 1);
@@ -218,7 +218,7 @@ public final class TermsEdgeTest extends Asking {
     }
 
     private static void reader() {
-        says("Terms 1", "READER: as GUEST, and twice LONG.");
+        says("Terms 1, promise 13", "READER: as GUEST, and twice LONG.");
         TwoTrue x = with(GUEST, READER);
         likely(x, 0, 50, 68, 99);
         lengths(x, 0, 0, 9, 0);
@@ -234,7 +234,7 @@ public final class TermsEdgeTest extends Asking {
     }
 
     private static void follower() {
-        says("Terms 1", "FOLLOWER: as GUEST, and hands for each of the HANDS of that PLACE.");
+        says("Terms 1, promise 13", "FOLLOWER: as GUEST, and hands for each of the HANDS of that PLACE.");
         TwoTrue x = with(GUEST, SHARP, FOLLOWER);
         likely(x, 0, 50, 50, 60);
         due("one hand: 49 to 39 + 10", x.guess(2, 0), 0);
@@ -256,7 +256,7 @@ public final class TermsEdgeTest extends Asking {
     }
 
     private static void friend() {
-        says("Terms 1", "FRIEND: as GUEST, and 5 times v for the PLACE of the LIE");
+        says("Terms 1, promise 13", "FRIEND: as GUEST, and 5 times v for the PLACE of the LIE");
         for (int v = 0; v <= 9; v++) {
             TwoTrue x = new TwoTrue();
             x.person(v % 2 == 0 ? GUEST : FRIEND, v);
@@ -293,7 +293,7 @@ public final class TermsEdgeTest extends Asking {
     }
 
     private static void friendModulo() {
-        says("Terms 1", "if the number of who tells is v modulo how many PEOPLE there are");
+        says("Terms 1, promise 13", "if the number of who tells is v modulo how many PEOPLE there are");
         for (int many = 2; many <= 6; many++) {
             for (int v = 1; v <= 9; v++) {
                 TwoTrue x = new TwoTrue();
@@ -310,7 +310,7 @@ public final class TermsEdgeTest extends Asking {
     }
 
     private static void sharp() {
-        says("Terms 1", "SHARP: as READER, and 30 more for PLACE 2.");
+        says("Terms 1, promise 13", "SHARP: as READER, and 30 more for PLACE 2.");
         TwoTrue x = with(GUEST, SHARP);
         likely(x, 0, 50, 99, 80);
         due("59 to 29 + 30", x.guess(1, 0), 0);
@@ -323,7 +323,8 @@ public final class TermsEdgeTest extends Asking {
     }
 
     private static void sheep() {
-        says("Terms 1", "SHEEP: as FOLLOWER, but if there are any HANDS at all, hands for each of that PLACE alone.");
+        says("Terms 1, promise 13",
+                "SHEEP: as FOLLOWER, but if there are any HANDS at all, hands for each of that PLACE alone.");
         TwoTrue x = with(GUEST, SHEEP, SHEEP);
         likely(x, 0, 99, 99, 0);
         due("no hands: by doubt", x.guess(1, 0), 2);
@@ -347,7 +348,7 @@ public final class TermsEdgeTest extends Asking {
     }
 
     private static void told() {
-        says("Terms 1", "TOLD: as FRIEND, and 40 more for the PLACE that its ROW (four numbers 0 .. 2; "
+        says("Terms 1, promises 7, 13", "TOLD: as FRIEND, and 40 more for the PLACE that its ROW (four numbers 0 .. 2; "
                 + "0 at first) tells at ROUND modulo 4.");
         TwoTrue x = with(GUEST, TOLD);
         likely(x, 0, 90, 50, 50);
@@ -383,7 +384,7 @@ public final class TermsEdgeTest extends Asking {
     }
 
     private static void ofSeveralTheFirst() {
-        says("Terms 1", "It guesses the PLACE with most WEIGHT (of several the first).");
+        says("Terms 1, promise 13", "It guesses the PLACE with most WEIGHT (of several the first).");
         int[][] rows = {{50, 50, 50, 0}, {50, 50, 51, 0}, {50, 51, 50, 0}, {51, 50, 50, 1}, {51, 51, 50, 2},
             {51, 50, 51, 1}, {50, 51, 51, 0}, {52, 51, 50, 2}, {50, 51, 52, 0}, {51, 50, 52, 1}, {99, 99, 99, 0},
             {0, 0, 0, 0}, {99, 99, 98, 2}, {1, 0, 0, 1}};
@@ -401,7 +402,7 @@ public final class TermsEdgeTest extends Asking {
     }
 
     private static void points() {
-        says("Terms 1", "Who guesses the PLACE of the LIE has 1 POINT more; who tells has 1 more for each "
+        says("Terms 1, promise 12", "Who guesses the PLACE of the LIE has 1 POINT more; who tells has 1 more for each "
                 + "who does not (is TAKEN IN).");
         TwoTrue x = with(GUEST, GUEST, GUEST, GUEST, GUEST, GUEST);
         due("none is taken in", x.round(5), 0);
@@ -432,7 +433,7 @@ public final class TermsEdgeTest extends Asking {
     }
 
     private static void oneMore() {
-        says("Terms 1", "Then ROUND is 1 more.");
+        says("Terms 1, promises 10, 12", "Then ROUND is 1 more.");
         TwoTrue x = with(GUEST, TOLD);
         x.row(1, 1, 1);
         due("in round 0 by its row for 0", x.round(0), 0);
@@ -461,7 +462,7 @@ public final class TermsEdgeTest extends Asking {
     }
 
     private static void changesNothing() {
-        says("Terms 2", "All that follows is asked, and changes nothing.");
+        says("Terms 2, promises 13 to 27", "All that follows is asked, and changes nothing.");
         for (int t = -1; t <= 6; t++) {
             int p = t;
             for (int what = -1; what <= 4; what++) {
@@ -496,7 +497,7 @@ public final class TermsEdgeTest extends Asking {
     }
 
     private static void handsInTheEnd() {
-        says("Terms 2", "HANDS of each PLACE in the end; how many are TAKEN IN.");
+        says("Terms 2, promise 14", "HANDS of each PLACE in the end; how many are TAKEN IN.");
         for (int many = 1; many <= 6; many++) {
             for (int place = 0; place < 3; place++) {
                 for (int lie = 0; lie < 3; lie++) {
@@ -517,7 +518,7 @@ public final class TermsEdgeTest extends Asking {
     }
 
     private static void orderTheFirst() {
-        says("Terms 2", "ORDER of one: of all six orders of its THINGS that by which most are TAKEN IN "
+        says("Terms 2, promise 15", "ORDER of one: of all six orders of its THINGS that by which most are TAKEN IN "
                 + "(of several the first as a row)");
         // Alike likely: who guesses, guesses place 0: most are taken in, if the lie is not told first.
         int[][] rows = {{1, 0, 2}, {0, 1, 2}, {0, 1, 2}};
@@ -568,7 +569,7 @@ public final class TermsEdgeTest extends Asking {
     }
 
     private static void likelyTheLeast() {
-        says("Terms 2", "BEST LIKELY of one: of 0, 9, 18 .. 99 that by which, were LIKELY of its LIE that, "
+        says("Terms 2, promise 16", "BEST LIKELY of one: of 0, 9, 18 .. 99 that by which, were LIKELY of its LIE that, "
                 + "most are TAKEN IN (of several the least)");
         // The LIE is told first: it is not guessed, if it is LIKELY above m, the other two being so by m.
         for (int m = 0; m < 99; m++) {
@@ -596,7 +597,7 @@ public final class TermsEdgeTest extends Asking {
     }
 
     private static void bestTheFirst() {
-        says("Terms 2", "BEST LIE of one: by which of its THINGS, were that the LIE, most are TAKEN IN "
+        says("Terms 2, promise 17", "BEST LIE of one: by which of its THINGS, were that the LIE, most are TAKEN IN "
                 + "(of several the first)");
         int[][] rows = {{50, 50, 50, 1}, {50, 50, 40, 0}, {50, 40, 50, 0}, {40, 50, 50, 1}};
         for (int[] row : rows) {
@@ -622,7 +623,8 @@ public final class TermsEdgeTest extends Asking {
     }
 
     private static void firstAndNotAgain() {
-        says("Terms 2", "if it guessed that PLACE ahead of all, and did not guess again: how many of all others "
+        says("Terms 2, promise 18",
+                "if it guessed that PLACE ahead of all, and did not guess again: how many of all others "
                 + "would guess otherwise than in a ROUND as ever.");
         // As ever all guess 0.
         TwoTrue x = with(SHEEP, SHEEP, SHEEP, GUEST, GUEST);
@@ -656,7 +658,7 @@ public final class TermsEdgeTest extends Asking {
     }
 
     private static void lineOfFive() {
-        says("Terms 2", "LINE of one who tells (5 PEOPLE at most, else -9)");
+        says("Terms 2, promise 19", "LINE of one who tells (5 PEOPLE at most, else -9)");
         for (int many = 1; many <= 6; many++) {
             TwoTrue x = new TwoTrue();
             for (int p = 0; p < many; p++) {
@@ -673,7 +675,7 @@ public final class TermsEdgeTest extends Asking {
     }
 
     private static void lineTheFirst() {
-        says("Terms 2", "that by which the fewest are TAKEN IN (of several the first as a row)");
+        says("Terms 2, promise 19", "that by which the fewest are TAKEN IN (of several the first as a row)");
         // All are taken in, whatever the row is.
         TwoTrue x = with(GUEST, GUEST, GUEST, GUEST, GUEST);
         x.lie(2, 2);
@@ -727,7 +729,8 @@ public final class TermsEdgeTest extends Asking {
     }
 
     private static void worthBelowNull() {
-        says("Terms 2", "in how many more ROUNDS (each other one telling one, ROUND being as it is) it guesses "
+        says("Terms 2, promise 20",
+                "in how many more ROUNDS (each other one telling one, ROUND being as it is) it guesses "
                 + "the PLACE of the LIE than it would, were its WEIGHTS those of a GUEST "
                 + "(of E, KIND as it is; may be below 0)");
         TwoTrue x = with(GUEST, GUEST, TOLD, GUEST, GUEST, GUEST);
@@ -768,7 +771,8 @@ public final class TermsEdgeTest extends Asking {
     }
 
     private static void liesAsBits() {
-        says("Terms 2", "LIES of one who told then: those of its THINGS, as bits, by which, were that the LIE, "
+        says("Terms 2, promise 22",
+                "LIES of one who told then: those of its THINGS, as bits, by which, were that the LIE, "
                 + "HANDS would be just so.");
         // The FRIEND (15 more): by things 0 and 2 it guesses place 0, by thing 1 place 1.
         for (int lie = 0; lie < 3; lie++) {
@@ -821,7 +825,8 @@ public final class TermsEdgeTest extends Asking {
     }
 
     private static void endsBeyond() {
-        says("Terms 2", "END of n ROUNDS (0 .. 30; beyond ROUND 999, too), each being told by the one whose number is "
+        says("Terms 2, promise 23",
+                "END of n ROUNDS (0 .. 30; beyond ROUND 999, too), each being told by the one whose number is "
                 + "ROUND modulo how many PEOPLE there are: POINTS of one then; who has most (of several the first).");
         // All guess place 0: of 0 and 1 that is the lie (2 points for the others), of 2 it is not (2 for it).
         TwoTrue x = with(GUEST, GUEST, GUEST);
@@ -866,7 +871,8 @@ public final class TermsEdgeTest extends Asking {
     }
 
     private static void oddsLowest() {
-        says("Terms 2", "if LIKELY of some THING of it, each alike likely, were 50: how likely more are TAKEN IN "
+        says("Terms 2, promise 24",
+                "if LIKELY of some THING of it, each alike likely, were 50: how likely more are TAKEN IN "
                 + "than are not: a fraction in lowest terms");
         // likely of things 0, 1, 2, the lie; in how many of 3.
         int[][] rows = {{40, 50, 50, 0, 0}, {40, 50, 50, 1, 3}, {40, 50, 50, 2, 3}, {60, 50, 50, 0, 2},
@@ -895,7 +901,8 @@ public final class TermsEdgeTest extends Asking {
     }
 
     private static void meanLowest() {
-        says("Terms 2", "MEAN: how many are TAKEN IN by each one that tells, together, by how many PEOPLE there are: "
+        says("Terms 2, promise 25",
+                "MEAN: how many are TAKEN IN by each one that tells, together, by how many PEOPLE there are: "
                 + "a fraction in lowest terms (NO: nobody).");
         due("nobody", new TwoTrue().mean(0), TwoTrue.NO);
         due("nobody", new TwoTrue().mean(1), TwoTrue.NO);
@@ -922,7 +929,8 @@ public final class TermsEdgeTest extends Asking {
     }
 
     private static void lookedFirst() {
-        says("Terms 2", "A BOOK told by hand: who told, who guessed, which PLACE (12 at most): LOOKED at: "
+        says("Terms 2, promises 26, 27",
+                "A BOOK told by hand: who told, who guessed, which PLACE (12 at most): LOOKED at: "
                 + "the first that is otherwise, as all is now (-5: none).");
         TwoTrue x = with(GUEST, GUEST);
         due("empty", x.looked(), -5);
@@ -968,7 +976,7 @@ public final class TermsEdgeTest extends Asking {
     }
 
     private static void wrapping() {
-        says("Terms 2", "ACTS of one with x (wrapping): 0 doubts, 1 guesses, 2 tells; i the number.");
+        says("Terms 2, promise 31", "ACTS of one with x (wrapping): 0 doubts, 1 guesses, 2 tells; i the number.");
         due("10: MAX + 1", act(GUEST, 0, 1, DOUBTS, MAX), MIN);
         due("10: MAX + 0", act(GUEST, 0, 0, DOUBTS, MAX), MAX);
         due("10: MIN + 5", act(GUEST, 9, 5, DOUBTS, MIN), MIN + 5);
@@ -997,7 +1005,7 @@ public final class TermsEdgeTest extends Asking {
     }
 
     private static void bodies() {
-        says("Terms 2", "the body of the KIND, or, if that has none, of the next KIND above that has one");
+        says("Terms 2, promise 31", "the body of the KIND, or, if that has none, of the next KIND above that has one");
         // v 5, i 1, x 7: doubts, guesses, tells.
         int[][] dues = {
             {8, 3, 6},
@@ -1015,7 +1023,8 @@ public final class TermsEdgeTest extends Asking {
     }
 
     private static void trace() {
-        says("Terms 2", "THE TRACE: the numbers of the bodies that ran in the latest act(), as they began; "
+        says("Terms 2, promises 32, 34",
+                "THE TRACE: the numbers of the bodies that ran in the latest act(), as they began; "
                 + "the first 20 are kept.");
         int[][] dues = {
             {10}, {11, 10}, {12, 11, 10},
@@ -1049,7 +1058,8 @@ public final class TermsEdgeTest extends Asking {
     }
 
     private static void image() {
-        says("Terms 2", "THE IMAGE: PEOPLE with all that is theirs, ROUND, SEEN, the BOOK, which EVENING holds.");
+        says("Terms 2, promises 29, 30",
+                "THE IMAGE: PEOPLE with all that is theirs, ROUND, SEEN, the BOOK, which EVENING holds.");
         Deed[] deeds = {
             x -> x.thing(0, 2, 0, 77), x -> x.thing(1, 0, 1, 2), x -> x.lie(0, 1), x -> x.tells(1, 2, 1),
             x -> x.row(0, 3, 1), x -> x.round(0), x -> x.see(0, 4), x -> x.see(2, 4), x -> x.book(-1, 0, 0),
@@ -1123,7 +1133,7 @@ public final class TermsEdgeTest extends Asking {
     }
 
     private static void tapesHoldNothing() {
-        says("Terms 3", "TAPES 0 .. 5 hold nothing (at first)");
+        says("Terms 3, promise 35", "TAPES 0 .. 5 hold nothing (at first)");
         TwoTrue x = new TwoTrue();
         for (int tape = 0; tape < 6; tape++) {
             due("tape " + tape, x.read(tape, 0), TwoTrue.NO);
@@ -1136,7 +1146,7 @@ public final class TermsEdgeTest extends Asking {
     }
 
     private static void booleans() {
-        says("Terms 3", "a row of 0 bytes, 1 shorts, 2 ints, 3 longs, 4 booleans (items 0, 1)");
+        says("Terms 3, promises 35, 36", "a row of 0 bytes, 1 shorts, 2 ints, 3 longs, 4 booleans (items 0, 1)");
         long[][] ends = {{-128, 127}, {-32768, 32767}, {MIN, MAX}, {Long.MIN_VALUE, Long.MAX_VALUE}};
         TwoTrue x = new TwoTrue();
         for (int sort = 0; sort < 4; sort++) {
@@ -1160,7 +1170,8 @@ public final class TermsEdgeTest extends Asking {
     }
 
     private static void judged() {
-        says("Terms 3", "the first that is otherwise; -5: none, or there is none to look at; 100 and how many were "
+        says("Terms 3, promise 28",
+                "the first that is otherwise; -5: none, or there is none to look at; 100 and how many were "
                 + "looked at, if the row ends ahead of that (or the place is below 0, or the TAPE holds nothing).");
         TwoTrue x = with(GUEST, GUEST, GUEST, GUEST, GUEST, GUEST);
         // All five others are taken in, by 0 once, by 4 twice.
@@ -1219,7 +1230,8 @@ public final class TermsEdgeTest extends Asking {
     }
 
     private static void refusals() {
-        says("Terms 3", "The host's refusals: NOTHING (-11): nothing is there; CAST (-12): another sort or KIND; "
+        says("Terms 3, promises 28, 33 to 38",
+                "The host's refusals: NOTHING (-11): nothing is there; CAST (-12): another sort or KIND; "
                 + "PLACE (-13): no such place; SIZE (-14): a size below 0.");
         TwoTrue x = with(GUEST);
         x.tape(0, 0, 1);
@@ -1232,7 +1244,8 @@ public final class TermsEdgeTest extends Asking {
     }
 
     private static void answers() {
-        says("Terms 3", "Answers: NONE (-1) no such number; BAD (-2) a number is not as told; STATE (-3) as told; "
+        says("Terms 3, promises 2 to 38",
+                "Answers: NONE (-1) no such number; BAD (-2) a number is not as told; STATE (-3) as told; "
                 + "FULL (-4)");
         due("NONE", TwoTrue.NONE, -1);
         due("BAD", TwoTrue.BAD, -2);
@@ -1245,7 +1258,7 @@ public final class TermsEdgeTest extends Asking {
     }
 
     private static void firstThatIsNamed() {
-        says("Terms 3", "the first that a call's words name.");
+        says("Terms 3, promises 2 to 38", "the first that a call's words name.");
         TwoTrue x = with(GUEST, GUEST, GUEST, GUEST, GUEST, GUEST);
         due("kind, v, six", x.person(7, 10), -1);
         due("v, six", x.person(6, 10), -2);
@@ -1276,7 +1289,7 @@ public final class TermsEdgeTest extends Asking {
     }
 
     private static void changesNothingEither() {
-        says("Terms 3", "What is answered so changes nothing; what is asked changes nothing.");
+        says("Terms 3, promises 2 to 38", "What is answered so changes nothing; what is asked changes nothing.");
         for (int n = -1; n <= 7; n++) {
             int one = n;
             for (int m : new int[] {-1, 0, 1, 2, 3, 6, 11, 21, 60}) {
@@ -1299,7 +1312,7 @@ public final class TermsEdgeTest extends Asking {
     }
 
     private static void no() {
-        says("Terms 3", "The constants: `NO = Long.MIN_VALUE`: There is no such number.");
+        says("Terms 3, promises 24, 25, 37", "The constants: `NO = Long.MIN_VALUE`: There is no such number.");
         due("NO", TwoTrue.NO, Long.MIN_VALUE);
         TwoTrue x = new TwoTrue();
         x.tape(0, 3, 1);

@@ -42,7 +42,7 @@ public final class TextEdgeTest extends Asking {
     }
 
     private static void hundredBytes() {
-        says("Terms 1", "AN EVENING is read from THE TEXT (bytes, 100 at most)");
+        says("Terms 1, promises 8, 9", "AN EVENING is read from THE TEXT (bytes, 100 at most)");
         String begun = "odd 12 " + times(23, "p<9", "&") + "&";
         due("bytes", begun.length(), 99);
         fault(begun, 99);
@@ -74,7 +74,7 @@ public final class TextEdgeTest extends Asking {
     }
 
     private static void oneToTenClauses() {
-        says("Terms 1", "CLAUSES, 1 to 10, with ; between");
+        says("Terms 1, promise 9", "CLAUSES, 1 to 10, with ; between");
         fault("", 0);
         for (int n = 1; n <= 10; n++) {
             fine(times(n, "hands 1", ";"));
@@ -98,7 +98,7 @@ public final class TextEdgeTest extends Asking {
     }
 
     private static void blanks() {
-        says("Terms 1", "odd n E; sure n E; hands n (one blank ahead of each part behind the word;");
+        says("Terms 1, promise 9", "odd n E; sure n E; hands n (one blank ahead of each part behind the word;");
         fine("odd 1 g=1");
         fine("sure 1 g=1");
         fine("hands 1");
@@ -123,7 +123,7 @@ public final class TextEdgeTest extends Asking {
     }
 
     private static void numbers() {
-        says("Terms 1", "n 1 or 2 digits)");
+        says("Terms 1, promise 9", "n 1 or 2 digits)");
         for (String word : new String[] {"odd ", "sure "}) {
             int at = word.length();
             fault(word, at);
@@ -160,7 +160,7 @@ public final class TextEdgeTest extends Asking {
     }
 
     private static void words() {
-        says("Terms 1", "odd n E; sure n E; hands n");
+        says("Terms 1, promise 9", "odd n E; sure n E; hands n");
         for (String word : new String[] {"odd ", "sure ", "hands "}) {
             for (int n = 0; n < word.length(); n++) {
                 String begun = word.substring(0, n);
@@ -193,7 +193,7 @@ public final class TextEdgeTest extends Asking {
     }
 
     private static void parts() {
-        says("Terms 1", "E: T or T|E. T: F or F&T. F: !F, (E), or a TEST");
+        says("Terms 1, promises 9, 11", "E: T or T|E. T: F or F&T. F: !F, (E), or a TEST");
         fine("odd 1 g=1|g=1&g=1|g=1");
         fine("odd 1 !g=1");
         fine("odd 1 (g=1)");
@@ -233,7 +233,7 @@ public final class TextEdgeTest extends Asking {
     }
 
     private static void binding() {
-        says("Terms 1", "E: T or T|E. T: F or F&T. F: !F, (E)");
+        says("Terms 1, promises 9, 11", "E: T or T|E. T: F or F&T. F: !F, (E)");
         for (int bits = 0; bits < 16; bits++) {
             boolean a = (bits & 1) == 1;
             boolean b = (bits & 2) == 2;
@@ -260,7 +260,7 @@ public final class TextEdgeTest extends Asking {
     }
 
     private static void letters() {
-        says("Terms 1", "a TEST: a letter, < or = or >, a number (1 or 2 digits)");
+        says("Terms 1, promise 9", "a TEST: a letter, < or = or >, a number (1 or 2 digits)");
         for (char letter : "gktpln".toCharArray()) {
             fine("odd 1 " + letter + "=1");
             fine("odd 1 " + letter + "<0");
@@ -273,7 +273,7 @@ public final class TextEdgeTest extends Asking {
     }
 
     private static void signsOfTests() {
-        says("Terms 1", "a letter, < or = or >, a number (1 or 2 digits)");
+        says("Terms 1, promise 9", "a letter, < or = or >, a number (1 or 2 digits)");
         eachSign("odd 1 k", 7, sign -> sign == '<' || sign == '=' || sign == '>');
         for (char op : "<=>".toCharArray()) {
             for (int sign = 0; sign < 128; sign++) {
@@ -311,7 +311,8 @@ public final class TextEdgeTest extends Asking {
     }
 
     private static void values() {
-        says("Terms 1", "of one who guesses and a THING told g the number of the one, k its KIND, t who tells, "
+        says("Terms 1, promise 11",
+                "of one who guesses and a THING told g the number of the one, k its KIND, t who tells, "
                 + "p the PLACE of the THING, l LIKELY by 10 (cut), n LONG.");
         String letters = "gktpln";
         int[] most = {5, 6, 5, 2, 9, 9};
@@ -337,7 +338,7 @@ public final class TextEdgeTest extends Asking {
     }
 
     private static void likelyCut() {
-        says("Terms 1", "l LIKELY by 10 (cut)");
+        says("Terms 1, promise 11", "l LIKELY by 10 (cut)");
         int[][] rows = {{0, 0}, {1, 0}, {9, 0}, {10, 1}, {11, 1}, {19, 1}, {20, 2}, {89, 8}, {90, 9}, {99, 9}};
         for (int[] row : rows) {
             for (int l = 0; l < 11; l++) {
@@ -348,7 +349,7 @@ public final class TextEdgeTest extends Asking {
     }
 
     private static void withinFour() {
-        says("Terms 1", "A ( or ! within 4 others is none.");
+        says("Terms 1, promise 9", "A ( or ! within 4 others is none.");
         for (int depth = 0; depth <= 5; depth++) {
             for (int bits = 0; bits < 1 << depth; bits++) {
                 StringBuilder open = new StringBuilder("odd 1 ");
@@ -380,7 +381,7 @@ public final class TextEdgeTest extends Asking {
     private static final String LONG = "odd 12 !(g=1|k<2)&t>3;sure 4 p=0;hands 56";
 
     private static void faultAtEachPlace() {
-        says("Terms 1", "The FAULT: the place of the first byte with which none begins so");
+        says("Terms 1, promise 9", "The FAULT: the place of the first byte with which none begins so");
         fine(LONG);
         for (int at = 0; at < LONG.length(); at++) {
             for (char wrong : new char[] {'~', 0, 127, ':', '/', ','}) {
@@ -396,7 +397,7 @@ public final class TextEdgeTest extends Asking {
     }
 
     private static void faultAtTheEnd() {
-        says("Terms 1", "(the end of THE TEXT, if it ends too early)");
+        says("Terms 1, promise 9", "(the end of THE TEXT, if it ends too early)");
         for (int n = 0; n <= LONG.length(); n++) {
             String begun = LONG.substring(0, n);
             if (n == 17 || n == 21 || n == 32 || n == 40 || n == 41) {
@@ -408,7 +409,7 @@ public final class TextEdgeTest extends Asking {
     }
 
     private static void newestHolds() {
-        says("Terms 1", "The newest EVENING holds (6 at most); without one there are no CLAUSES.");
+        says("Terms 1, promises 9, 11", "The newest EVENING holds (6 at most); without one there are no CLAUSES.");
         TwoTrue x = with(GUEST, GUEST);
         due("without one", x.doubt(0, 1, 0), 49);
         due("without one", x.told(1), 10);
@@ -426,7 +427,8 @@ public final class TextEdgeTest extends Asking {
     }
 
     private static void doubts() {
-        says("Terms 1", "DOUBT of one about a THING told: 99 less LIKELY, and the n of all odd whose E holds, "
+        says("Terms 1, promise 11",
+                "DOUBT of one about a THING told: 99 less LIKELY, and the n of all odd whose E holds, "
                 + "less those of all sure, together.");
         TwoTrue x = with(GUEST, GUEST);
         likely(x, 1, 0, 99, 1);
@@ -451,7 +453,7 @@ public final class TextEdgeTest extends Asking {
     }
 
     private static void handsWithout() {
-        says("Terms 1", "hands (10 without): the last one's n.");
+        says("Terms 1, promise 10", "hands (10 without): the last one's n.");
         TwoTrue x = new TwoTrue();
         due("without an evening", x.told(1), 10);
         read(x, "odd 1 g=1");
