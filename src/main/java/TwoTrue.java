@@ -437,8 +437,7 @@ public final class TwoTrue {
         if (!now.has(person) || act < 0 || act >= Acts.ACTS) {
             return 0;
         }
-        Person one = now.seats[person];
-        return acts.perform(one, one.kind, act, x, 0);
+        return acts.run(now.seats[person], act, x);
     }
 
     public int trace(int i) {
@@ -1096,8 +1095,12 @@ public final class TwoTrue {
         final int[] trace = new int[KEPT];
         int ran;
 
+        int run(Person one, int act, int x) {
+            return perform(one, one.kind, act, x, 0);
+        }
+
         /** Runs the body that the KIND from, or the next above it, has for an act. */
-        int perform(Person one, int from, int act, int x, int depth) {
+        private int perform(Person one, int from, int act, int x, int depth) {
             int kind = from;
             for (int up = 0; up < KINDS && kind > GUEST && BODIES[kind * ACTS + act] == 0; up++) {
                 kind = KIND_ABOVE[kind];

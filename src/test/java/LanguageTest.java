@@ -1,19 +1,13 @@
-import java.io.IOException;
 import java.lang.reflect.Constructor;
 import java.lang.reflect.Field;
 import java.lang.reflect.Method;
 import java.lang.reflect.Modifier;
-import java.nio.file.Files;
-import java.nio.file.Path;
-import java.util.ArrayList;
 import java.util.HashSet;
 import java.util.List;
 import java.util.Set;
 import java.util.TreeSet;
-import java.util.regex.Matcher;
-import java.util.regex.Pattern;
 
-/** The face, as the document gives it, and those rules of LANGUAGE.md that can be seen from outside. */
+/** The face, as the document gives it: rule 1 of LANGUAGE.md. */
 public final class LanguageTest {
     private static final String[] FACE = {
         "int person(int, int)", "int thing(int, int, int, int)", "int lie(int, int)", "int tells(int, int, int)",
@@ -50,6 +44,10 @@ public final class LanguageTest {
                 Check.holds(m + " is private", Modifier.isPrivate(m.getModifiers()));
             }
         }
+        for (Method m : TwoTrue.class.getDeclaredMethods()) {
+            Check.holds(m + " bears no public name",
+                    Modifier.isPublic(m.getModifiers()) || !publicNames.contains(m.getName()));
+        }
         Check.holds("the methods are those of the face", is.equals(new TreeSet<>(List.of(FACE))));
         Set<String> constants = new TreeSet<>();
         for (Field f : TwoTrue.class.getDeclaredFields()) {
@@ -78,87 +76,17 @@ public final class LanguageTest {
     }
 
     private static void classes() {
-        Check.group("rules 2, 5, 11");
-        List<Class<?>> all = new ArrayList<>(List.of(TwoTrue.class.getDeclaredClasses()));
-        for (Class<?> inside : all) {
-            Check.holds(inside + " is static, not public", Modifier.isStatic(inside.getModifiers())
-                    && !Modifier.isPublic(inside.getModifiers()) && inside.getDeclaredClasses().length == 0);
-        }
-        all.add(TwoTrue.class);
-        Check.holds("twelve classes at most", all.size() <= 12);
-        for (Class<?> c : all) {
-            int fields = 0;
-            for (Field f : c.getDeclaredFields()) {
-                if (Modifier.isStatic(f.getModifiers())) {
-                    Check.holds(f + " is final", Modifier.isFinal(f.getModifiers()));
-                } else {
-                    fields++;
-                }
-            }
-            Check.holds(c + " has twenty fields at most", fields <= 20);
-            for (Method m : c.getDeclaredMethods()) {
-                Check.holds(m + " has seven parameters at most", m.getParameterCount() <= 7);
-                Check.holds(m + " is no lambda", !m.isSynthetic());
-            }
+        Check.group("rule 1, classes inside");
+        for (Class<?> inside : TwoTrue.class.getDeclaredClasses()) {
+            int is = inside.getModifiers();
+            Check.holds(inside + " is static, not public, not protected",
+                    Modifier.isStatic(is) && !Modifier.isPublic(is) && !Modifier.isProtected(is));
         }
     }
 
-    /** The source with its comments and what stands in its texts taken out, line for line. */
-    private static String bare(String source) {
-        Matcher m = Pattern.compile("//[^\n]*|/\\*.*?\\*/|\"(?:\\\\.|[^\"\\\\])*\"|'(?:\\\\.|[^'\\\\])+'",
-                Pattern.DOTALL).matcher(source);
-        StringBuilder s = new StringBuilder();
-        while (m.find()) {
-            m.appendReplacement(s, "~" + m.group().replaceAll("[^\n]", ""));
-        }
-        return m.appendTail(s).toString();
-    }
-
-    private static void source() throws IOException {
-        Check.group("rules 3, 4, 6, 10");
-        String s = bare(Files.readString(Path.of("src/main/java/TwoTrue.java")));
-        for (String word : new String[] {"throw", "throws", "try", "catch", "synchronized", "assert", "import",
-            "package", "instanceof", "record", "yield", "var", "double", "float", "Object", "equals", "hashCode",
-            "toString", "volatile", "native", "transient", "protected"}) {
-            Check.holds("no word " + word, !Pattern.compile("\\b" + word + "\\b").matcher(s).find());
-        }
-        for (String sign : new String[] {"->", "::", "...", "@", "[][]"}) {
-            Check.holds("no sign " + sign, !s.contains(sign));
-        }
-        Matcher m = Pattern.compile("\\b([A-Z]\\w*[a-z]\\w*)\\b").matcher(s);
-        Set<String> own = new HashSet<>(List.of("TwoTrue", "String", "System", "Long"));
-        for (Class<?> c : TwoTrue.class.getDeclaredClasses()) {
-            own.add(c.getSimpleName());
-        }
-        own.add("E");
-        while (m.find()) {
-            String name = m.group(1);
-            Check.holds("the name " + name + " is known", own.contains(name) || name.startsWith("read"));
-        }
-        lengths(s);
-    }
-
-    private static void lengths(String s) {
-        Check.group("rule 11");
-        String[] lines = s.split("\n", -1);
-        Pattern head = Pattern.compile("^( {4}| {8})[a-zA-Z][\\w\\[\\] ]*\\([^;=]*\\) \\{$");
-        for (int i = 0; i < lines.length; i++) {
-            Matcher m = head.matcher(lines[i]);
-            if (!m.find()) {
-                continue;
-            }
-            int end = i;
-            while (!lines[end].equals(m.group(1) + "}")) {
-                end++;
-            }
-            Check.holds(lines[i].trim() + " has sixty lines at most", end - i <= 60);
-        }
-    }
-
-    public static void main(String[] args) throws IOException {
+    public static void main(String[] args) {
         face();
         classes();
-        source();
         Check.end("LanguageTest");
     }
 }
